@@ -475,7 +475,9 @@ public final class BikeShare {
         }
 
         int distance(int from, int to) {
-            return Math.abs(x[from] - x[to]) + Math.abs(y[from] - y[to]);
+            int across = x[from] - x[to];
+            int up = y[from] - y[to];
+            return (across < 0 ? -across : across) + (up < 0 ? -up : up);
         }
 
         int riderMinutes(int from, int to) {

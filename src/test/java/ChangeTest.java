@@ -19,6 +19,7 @@ public final class ChangeTest {
         bikes();
         bikesRefused();
         manyRiders();
+        manyRides();
         Check.end("ChangeTest");
     }
 
@@ -261,5 +262,39 @@ public final class ChangeTest {
         x.pass(1440);
         Check.due("20 find a dock", x.pass(520), 20);
         Check.due("the others are turned away", x.total(4), rents - 20);
+    }
+
+    /** More rides than 512, by the trips of seven days. */
+    private static void manyRides() {
+        BikeShare x = Check.city("pace 99 0;fare 1;station 0 0 20 20;station 99 0 20 20;station 0 99 20 20;"
+                + "trip 0 0 5;trip 1 1 5;trip 2 2 5;".repeat(10));
+        for (int day = 0; day < 6; day++) {
+            x.pass(1440);
+        }
+        Check.due("180 rides", x.total(2), 180);
+        int rents = 0;
+        for (int calls = 0; calls < 440; calls++) {
+            if (x.bikes(0) == 0) {
+                x.addBikes(0, 20);
+            } else {
+                Check.due("arrival", x.rent(0, 1 + rents % 2), 8640 + 981);
+                rents++;
+            }
+        }
+        x.addBikes(0, 20 - x.bikes(0));
+        x.pass(5);
+        Check.due("rides", x.total(2), 210 + rents);
+        Check.due("riders", x.riders(), 30 + rents);
+        for (int i = 0; i < 30; i++) {
+            Check.due("trips arrive first", x.rider(i, 0), 8646);
+            Check.due("where they began", x.rider(i, 1), i % 3);
+        }
+        for (int i = 0; i < rents; i++) {
+            Check.due("rents in order", x.rider(30 + i, 1), 1 + i % 2);
+            Check.due("from 0", x.rider(30 + i, 2), 0);
+            Check.due("at", x.rider(30 + i, 0), 9621);
+        }
+        Check.due("the trips end", x.pass(1), 30);
+        Check.due("fares", x.total(0), 210 + rents);
     }
 }

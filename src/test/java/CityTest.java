@@ -18,6 +18,9 @@ public final class CityTest {
         lowestErrorFirst();
         errorKeepsEverything();
         successStartsAnew();
+        smallAfterLarge();
+        totalsStartAnew();
+        errorsLeaveNothing();
         sizes();
         timeAndFleet();
         Check.end("CityTest");
@@ -129,6 +132,13 @@ public final class CityTest {
         error("Station 1 1 1 1;", 0, 1);
         error("stat ion 1 1 1 1;", 0, 1);
         error("minutes;", 0, 1);
+        for (String word : new String[] {"xtation 0 0 1 0;", "cruck 0 1;", "grip 0 0 0;", "face 1 1;", "valance 1;",
+            "conus 1 1;", "dare 1;", "stationz 0 0 1 0;", "astation 0 0 1 0;", "zfare 1;", "fares 1;", "far 1;"}) {
+            error(word, 0, 1);
+        }
+        for (String word : new String[] {"ninutes", "likes", "rocks", "four", "minutez", "our", "hours"}) {
+            error("fare " + word + ";", 5, 1);
+        }
         error("\tstation 0 0 1 0;", 0, 1);
         error(" \r", 1, 1);
         error("station", 7, 1);
@@ -273,6 +283,62 @@ public final class CityTest {
         BikeShare y = Check.city("pace 1 1;balance 9;bonus 9 9;fare 7;");
         Check.due("without statements again", Check.parse(y, text), 2);
         Check.due("their values too", Check.everything(y).equals(Check.everything(Check.city(text))), true);
+    }
+
+    /** What a text of many things leaves behind must not be seen in a smaller city after it. */
+    private static void smallAfterLarge() {
+        String large = "station 9 9 9 9;".repeat(8) + "truck 7 9;truck 6 9;truck 5 9;" + "trip 7 7 1;".repeat(9)
+                + "pace 99 99;balance 50;bonus 100 999;fare 1+2*3;";
+        String small = "station 0 0 9 5;station 5 0 9 1;truck 0 4;trip 0 1 5;";
+        BikeShare x = new BikeShare();
+        for (int i = 0; i < 3; i++) {
+            Check.due("large", Check.parse(x, large), 8);
+            for (int truck = 0; truck < 3; truck++) {
+                x.dispatch(truck, 0, 0);
+                x.dispatch(truck, 1, 0);
+            }
+            x.rent(7, 7);
+            x.breakDock(7);
+            x.rent(6, 0);
+            x.rent(0, 5);
+            x.addBikes(6, 1);
+            x.addBikes(0, 1);
+            x.pass(500);
+            x.tourMinutes(0);
+        }
+        for (int i = 0; i < 3; i++) {
+            Check.due("small", Check.parse(x, small), 2);
+            Check.due("as if it were the first", Check.everything(x).equals(Check.everything(Check.city(small))), true);
+            Check.due("its tour", x.tourMinutes(0), Check.city(small).tourMinutes(0));
+            Check.due("its fare", x.quote(0, 1), 100);
+        }
+    }
+
+    private static void totalsStartAnew() {
+        String text = "bonus 90 5;station 0 0 9 5;station 5 0 1 1;station 9 0 1 1;trip 1 0 3;trip 1 0 3;";
+        BikeShare x = Check.city(text);
+        x.rent(0, 2);
+        x.pass(100);
+        Check.due("a bonus", x.total(1) > 0, true);
+        Check.due("a trip lost", x.total(3), 1);
+        Check.due("turned away", x.total(4) > 0, true);
+        Check.parse(x, text);
+        for (int what = 0; what < 6; what++) {
+            Check.due("from the beginning " + what, x.total(what), 0);
+        }
+    }
+
+    private static void errorsLeaveNothing() {
+        BikeShare x = new BikeShare();
+        for (int i = 0; i < 12; i++) {
+            Check.due("open", Check.parse(x, "fare 1+2*(((((3+4*"), -2 - (8 * 18 + 1));
+        }
+        Check.due("then a good one", Check.parse(x, "station 0 0 1 0;fare 1+2*(1+2*(1+2*(1+2*(1+2*(1+2)))));"), 1);
+        Check.due("with its own sum", x.quote(0, 0), 127);
+        Check.due("white space up to a word", Check.parse(x, " ".repeat(696) + "fare"), -2 - (8 * 700 + 1));
+        Check.due("white space up to a number", Check.parse(x, " ".repeat(691) + "fare 1234"), -2 - (8 * 700 + 1));
+        Check.due("white space up to the end", Check.parse(x, "fare 7;" + " ".repeat(693)), 0);
+        Check.due("a full text", Check.parse(x, "fare 1" + "+1".repeat(346) + " ;"), 0);
     }
 
     private static void sizes() {

@@ -121,6 +121,11 @@ public final class RideTest {
         Check.due("100 percent of a full one", all.bonusAt(1), 0);
         all.breakDock(2);
         Check.due("no working dock", all.bonusAt(2), 0);
+        BikeShare close = Check.city("bonus 34 7;station 0 0 3 1;station 0 0 6 2;station 0 0 20 6;station 0 0 20 7;");
+        Check.due("100 is less than 34 * 3", close.bonusAt(0), 7);
+        Check.due("200 is less than 34 * 6", close.bonusAt(1), 7);
+        Check.due("600 is less than 34 * 20", close.bonusAt(2), 7);
+        Check.due("700 is not", close.bonusAt(3), 0);
         BikeShare never = Check.city("bonus 0 7;station 0 0 2 0;");
         Check.due("0 percent", never.bonusAt(0), 0);
     }
@@ -274,6 +279,11 @@ public final class RideTest {
         x.rent(1, 1);
         x.rent(1, 1);
         Check.due("the same station", x.busiestPair(), 9);
+        BikeShare low = Check.city("station 0 0 9 9;station 1 0 9 9;");
+        low.rent(0, 0);
+        Check.due("from 0 to 0", low.busiestPair(), 0);
+        low.rent(1, 1);
+        Check.due("the later of as many is higher", low.busiestPair(), 0);
         BikeShare y = Check.city("station 0 0 9 9;station 1 0 9 9;trip 1 0 3;trip 0 1 3;");
         y.pass(3);
         Check.due("in one minute by the number of the trip", y.busiestPair(), 8);

@@ -55,6 +55,10 @@ public final class StationTest {
         Check.due("4 and 4 of 8", half.isBalanced(1), true);
         Check.due("3 and 5 of 8", half.isBalanced(2), false);
         Check.due("5 and 3 of 8", half.isBalanced(3), false);
+        BikeShare third = Check.city("balance 33;station 0 0 3 0;station 0 0 6 1;station 0 0 20 6;");
+        Check.due("33 percent of 3", third.isBalanced(0), true);
+        Check.due("33 percent of 6", third.isBalanced(1), true);
+        Check.due("33 percent of 20", third.isBalanced(2), true);
         BikeShare zero = Check.city("balance 0;station 0 0 7 0;station 0 0 7 7;");
         Check.due("no mark, no bike", zero.isBalanced(0), true);
         Check.due("no mark, no dock", zero.isBalanced(1), true);

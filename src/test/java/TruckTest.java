@@ -8,6 +8,7 @@ public final class TruckTest {
         driving();
         ordersAtOnce();
         queue();
+        fullQueue();
         carryOut();
         trucksBeforeRiders();
         trucksByNumber();
@@ -17,6 +18,7 @@ public final class TruckTest {
         noTour();
         ties();
         longTour();
+        oneAfterAnother();
         wrongCalls();
         Check.end("TruckTest");
     }
@@ -79,6 +81,22 @@ public final class TruckTest {
         Check.due("all done", truck(x, 0), 0, -1, -1, 2, 20, 0);
     }
 
+    private static void fullQueue() {
+        BikeShare x = Check.city("pace 10 10;station 0 0 20 10;station 3 0 20 0;truck 0 20;");
+        x.dispatch(0, 1, 0);
+        int[][] orders = {{1, 5}, {0, 7}, {1, 3}, {0, 9}, {1, 6}, {0, 4}};
+        for (int[] order : orders) {
+            x.dispatch(0, order[0], order[1]);
+        }
+        int[][] bikes = {{10, 0}, {7, 0}, {7, 3}, {7, 3}, {7, 3}, {4, 3}};
+        for (int i = 0; i < 6; i++) {
+            x.pass(4);
+            Check.due("at 0 after way " + i, x.bikes(0), bikes[i][0]);
+            Check.due("at 1 after way " + i, x.bikes(1), bikes[i][1]);
+        }
+        Check.due("all done", truck(x, 0), 0, -1, -1, 3, 20, 0);
+    }
+
     private static void carryOut() {
         BikeShare x = Check.city("station 0 0 20 15;station 0 0 6 0;truck 0 8;pace 0 0;");
         x.dispatch(0, 0, 0);
@@ -96,7 +114,13 @@ public final class TruckTest {
         x.dispatch(0, 1, 1);
         Check.due("until there are as many", x.truck(0, 3), 2);
         x.dispatch(0, 1, 2);
-        Check.due("until there are as many again", x.truck(0, 3), 1);
+        Check.due("one more than there is", x.truck(0, 3), 1);
+        x.addBikes(1, 3);
+        x.addBikes(0, 10);
+        x.dispatch(0, 0, 0);
+        x.pass(1);
+        Check.due("it holds one already", x.truck(0, 3), 8);
+        Check.due("so it takes seven", x.bikes(0), 10);
     }
 
     private static void trucksBeforeRiders() {
@@ -187,6 +211,27 @@ public final class TruckTest {
                 + "station 4 0 4 4;station 5 0 4 0;station 6 0 4 4;station 7 0 4 0;truck 0 2;";
         tour("all eight", Check.city(text), 14, 0, 1, 2, 3, 4, 5, 6, 7);
         tour("all eight from the other end", Check.city(text.replace("truck 0", "truck 7")), 22, 0, 1, 2, 3, 4, 5, 6, 7);
+    }
+
+    /** Each search begins anew, whatever was asked before it. */
+    private static void oneAfterAnother() {
+        BikeShare x = Check.city("pace 0 10;station 0 0 10 9;station 5 0 10 5;truck 0 5;truck 1 5;");
+        Check.due("the first stop before the minutes are asked", x.tourStop(0, 0), 0);
+        Check.due("the first stop of the other", x.tourStop(1, 0), 0);
+        Check.due("the minutes of the other", x.tourMinutes(1), 6);
+        Check.due("no second stop", x.tourStop(0, 1), -1);
+        x.removeBikes(0, 4);
+        Check.due("no stop now", x.tourStop(0, 0), -1);
+        Check.due("no minutes now", x.tourMinutes(1), 0);
+        x.removeBikes(0, 5);
+        x.removeBikes(1, 5);
+        Check.due("no tour now", x.tourMinutes(0), -1);
+        Check.due("no stop of it", x.tourStop(1, 0), -1);
+        x.addBikes(1, 10);
+        Check.due("a tour again", Check.tour(x, 0), 1, 0);
+        Check.due("its minutes", x.tourMinutes(0), 12);
+        Check.due("its stops for the other", Check.tour(x, 1), 1, 0);
+        Check.due("its minutes", x.tourMinutes(1), 6);
     }
 
     private static void wrongCalls() {

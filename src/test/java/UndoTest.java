@@ -17,6 +17,7 @@ public final class UndoTest {
         whatIsNoChange();
         snapshots();
         snapshotAndHistory();
+        earliestPair();
         slots();
         snapshotKeepsItsState();
         Check.end("UndoTest");
@@ -161,6 +162,33 @@ public final class UndoTest {
         x.pass(1);
         Check.due("a new history", x.undo(), 0);
         Check.due("time", x.time(), 2);
+    }
+
+    private static void earliestPair() {
+        BikeShare x = Check.city(CITY);
+        x.saveSnapshot(0);
+        x.rent(1, 0);
+        x.rent(0, 1);
+        x.saveSnapshot(1);
+        Check.due("from 1 to 0 began earlier", x.busiestPair(), 8);
+        x.restoreSnapshot(0);
+        x.rent(0, 1);
+        x.rent(1, 0);
+        Check.due("from 0 to 1 began earlier", x.busiestPair(), 1);
+        x.restoreSnapshot(1);
+        Check.due("as it was saved", x.busiestPair(), 8);
+        x.undo();
+        x.restoreSnapshot(0);
+        Check.due("none", x.busiestPair(), -1);
+        x.rent(0, 1);
+        x.rent(1, 0);
+        x.rent(0, 2);
+        x.undo();
+        x.undo();
+        x.undo();
+        x.rent(1, 0);
+        x.rent(0, 1);
+        Check.due("after undoing", x.busiestPair(), 8);
     }
 
     private static void slots() {
