@@ -1438,10 +1438,12 @@ public final class BikeShare {
                 int then = visited | 1 << i;
                 int nextLow = Math.max(0, low + leastGain[i]);
                 int nextHigh = Math.min(capacity, high + mostGain[i]);
+                if (then == visited || nextLow > nextHigh
+                        || (loads(nextLow, nextHigh) & ~hopeless[then]) == 0) {
+                    continue;
+                }
                 int nextBound = bound + minutesTo(stops, place, i) - leastWay[i];
-                if (then != visited && nextLow <= nextHigh
-                        && (loads(nextLow, nextHigh) & ~hopeless[then]) != 0
-                        && mayBeBest(stops + 1, then, nextBound)) {
+                if (mayBeBest(stops + 1, then, nextBound)) {
                     path[stops] = i;
                     visit(stops + 1, i, then, nextLow, nextHigh, nextBound);
                 }

@@ -35,6 +35,8 @@ public final class LanguageTest extends TreePathScanner<Void, Void> {
     private static final Set<String> EXCEPTIONS = Set.of(
             "IllegalStateException", "IllegalArgumentException", "IndexOutOfBoundsException");
 
+    private static final Set<String> FACE = face();
+
     private final Trees trees;
     private final CompilationUnitTree unit;
     private final Map<String, Set<String>> calls = new HashMap<>();
@@ -64,6 +66,14 @@ public final class LanguageTest extends TreePathScanner<Void, Void> {
             Check.due("only ASCII", text.chars().allMatch(c -> c == '\n' || c >= 32 && c < 127), true);
         }
         Check.end("LanguageTest");
+    }
+
+    private static Set<String> face() {
+        Set<String> names = new TreeSet<>();
+        for (java.lang.reflect.Method shown : BikeShare.class.getMethods()) {
+            names.add(shown.getName());
+        }
+        return names;
     }
 
     /** The calls open at once, a method that calls itself counting once. */
@@ -130,6 +140,10 @@ public final class LanguageTest extends TreePathScanner<Void, Void> {
         String outer = method;
         method = nameOf(trees.getElement(getCurrentPath()));
         calls.putIfAbsent(method, new TreeSet<>());
+        boolean shown = tree.getModifiers().getFlags().contains(Modifier.PUBLIC);
+        if (!shown) {
+            Check.due("no name of the face: " + method, FACE.contains(tree.getName().toString()), false);
+        }
         Check.due("parameters of " + method, tree.getParameters().size() <= 7, true);
         Check.due("lines of " + method, lines(tree) <= 60, true);
         super.visitMethod(tree, null);

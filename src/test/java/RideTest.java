@@ -126,6 +126,8 @@ public final class RideTest {
         Check.due("200 is less than 34 * 6", close.bonusAt(1), 7);
         Check.due("600 is less than 34 * 20", close.bonusAt(2), 7);
         Check.due("700 is not", close.bonusAt(3), 0);
+        BikeShare closer = Check.city("bonus 67 7;station 0 0 3 2;");
+        Check.due("200 is less than 67 * 3", closer.bonusAt(0), 7);
         BikeShare never = Check.city("bonus 0 7;station 0 0 2 0;");
         Check.due("0 percent", never.bonusAt(0), 0);
     }

@@ -60,6 +60,8 @@ public final class TruckTest {
         Check.due("put back", x.bikes(0), 2);
         Check.due("as many as the target: nothing to do", x.dispatch(0, 0, 2), 0);
         Check.due("empty", x.total(5), 0);
+        x.dispatch(0, 0, 3);
+        Check.due("nothing to put", x.bikes(0), 2);
         Check.due("no time passed", x.time(), 0);
     }
 
