@@ -1,6 +1,7 @@
 import java.io.IOException;
 import java.nio.file.Files;
 import java.nio.file.Path;
+import java.util.ArrayList;
 import java.util.Arrays;
 import java.util.List;
 import java.util.Map;
@@ -11,6 +12,7 @@ final class Document {
     static final int DESCRIPTION = 0;
     private static final int OUTSIDE = -1;
     private static final Path FILE = Path.of("../shared/DOC.md");
+    private static final List<String> LINES = lines();
     private static final Map<Integer, Section> SECTIONS = read();
 
     private static final class Section {
@@ -47,17 +49,35 @@ final class Document {
         }
     }
 
+    /** What the document declares: the lines of its code block, and the signature of each promise. */
+    static List<String> declarations() {
+        List<String> all = new ArrayList<>();
+        boolean inBlock = false;
+        for (String line : LINES) {
+            if (line.startsWith("```")) {
+                inBlock = line.equals("```java");
+            } else if (inBlock && !line.equals("}")) {
+                all.add(line.trim());
+            } else if (isSignature(line)) {
+                all.add("public " + line.substring(1, line.length() - 1) + ";");
+            }
+        }
+        return all;
+    }
+
+    private static List<String> lines() {
+        try {
+            return Files.readAllLines(FILE);
+        } catch (IOException e) {
+            System.out.println("no document at " + FILE + ": its words are not compared");
+            return List.of();
+        }
+    }
+
     private static Map<Integer, Section> read() {
         Map<Integer, Section> sections = new TreeMap<>();
-        List<String> lines;
-        try {
-            lines = Files.readAllLines(FILE);
-        } catch (IOException e) {
-            System.out.println("no document at " + FILE + ": its sentences are not compared");
-            return sections;
-        }
         int section = OUTSIDE;
-        for (String line : lines) {
+        for (String line : LINES) {
             if (line.startsWith("## ")) {
                 section = sectionOf(line);
             } else if (section != OUTSIDE && !line.isBlank() && !isSignature(line) && !line.startsWith("---- ")) {
@@ -77,6 +97,6 @@ final class Document {
     }
 
     private static boolean isSignature(String line) {
-        return line.startsWith("`") && line.endsWith("`");
+        return line.startsWith("`") && line.endsWith("`") && !line.startsWith("```");
     }
 }

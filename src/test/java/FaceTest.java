@@ -1,7 +1,10 @@
+import java.io.IOException;
 import java.lang.reflect.Constructor;
 import java.lang.reflect.Field;
 import java.lang.reflect.Method;
 import java.lang.reflect.Modifier;
+import java.nio.file.Files;
+import java.nio.file.Path;
 import java.util.ArrayList;
 import java.util.Arrays;
 import java.util.List;
@@ -20,6 +23,8 @@ public final class FaceTest {
         "int breakDock(int)", "int repairDock(int)", "int addBikes(int,int)", "int removeBikes(int,int)",
         "int undo()", "boolean saveSnapshot(int)", "boolean restoreSnapshot(int)",
     };
+
+    private static final int CLASS_CONSTANT_AND_CONSTRUCTOR = 3;
 
     private FaceTest() {
     }
@@ -56,7 +61,25 @@ public final class FaceTest {
         Check.due("constructors", constructors.length, 1);
         Check.due("its parameters", constructors[0].getParameterCount(), 0);
         Check.due("it is public", Modifier.isPublic(constructors[0].getModifiers()), true);
+        compareWithDocument();
         Check.end("FaceTest");
+    }
+
+    /** Each declaration stands in the class word for word: names of parameters and exceptions too. */
+    private static void compareWithDocument() throws IOException {
+        String text = Files.readString(Path.of("src/main/java/BikeShare.java")).replaceAll("\\s+", " ");
+        List<String> due = Document.declarations();
+        for (String declaration : due) {
+            boolean constant = declaration.contains("=");
+            String words = constant ? declaration : declaration.replaceAll("[ ;{]+$", " {");
+            Check.due("the class says: " + words, text.contains(" " + words + " "), true);
+        }
+        if (!due.isEmpty()) {
+            int declared = METHODS.length + CLASS_CONSTANT_AND_CONSTRUCTOR;
+            Check.due("public things in the class", text.split(" public ", -1).length - 1, declared);
+            // The promises declare the constructor and the methods once more.
+            Check.due("declarations in the document", due.size(), declared + METHODS.length + 1);
+        }
     }
 
     private static String signature(Method method) {
